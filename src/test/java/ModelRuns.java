@@ -595,6 +595,7 @@ public final class ModelRuns {
     final StringBuilder log = new StringBuilder();
     NextWay real = new NextWay();
     Model model = new Model();
+    boolean rich;
     int wrong;
 
     ModelRuns(long seed) {
@@ -705,11 +706,15 @@ public final class ModelRuns {
         int w = someWalker();
         int v = someWalker();
         int what = near(0, 1);
-        boolean few = model.plan.rowCount() <= 600;
-        boolean small = model.plan.n <= 5;
+        boolean few = model.plan.rowCount() <= 600 || below(40) == 0;
+        boolean small = model.plan.n <= 6 || below(20) == 0;
         switch (below(30)) {
             case 0:
-                tellSome();
+                if (!rich) {
+                    tellSome();
+                } else if (below(3) == 0) {
+                    tellRich();
+                }
                 break;
             case 1:
                 int k = near(0, 3);
@@ -810,8 +815,40 @@ public final class ModelRuns {
         }
     }
 
+    /** A town with ways out of nearly all corners, told in as many texts as it needs. */
+    void tellRich() {
+        int n = 2 + below(7);
+        int most = 1 + below(4);
+        List<String> lines = new ArrayList<>();
+        for (int c = 0; c < n; c++) {
+            int ways = 1 + below(most);
+            for (int w = 0; w < ways; w++) {
+                lines.add("way " + c + " " + (w == 0 && below(3) > 0 ? (c + 1) % n : below(n)));
+            }
+            if (below(3) == 0) {
+                lines.add(KINDS[below(8) == 0 ? 3 : below(3)] + " " + c);
+            }
+            if (below(3) == 0) {
+                lines.add("vane " + c + " " + below(ways));
+            }
+        }
+        int walkers = below(6);
+        for (int w = 0; w < walkers; w++) {
+            lines.add("walker " + below(n));
+        }
+        lines.add(0, "town " + n);
+        for (int i = 0; i < lines.size(); i += 12) {
+            tell(String.join(";", lines.subList(i, Math.min(i + 12, lines.size()))));
+            due("town()", real.town(), model.town());
+        }
+    }
+
     void run() {
-        for (int i = 0; i < 3; i++) {
+        rich = below(3) > 0;
+        if (rich) {
+            tellRich();
+        }
+        for (int i = 0; i < 3 && !rich; i++) {
             tellSome();
         }
         for (int i = 0; i < 300 && wrong == 0; i++) {
@@ -820,7 +857,7 @@ public final class ModelRuns {
     }
 
     public static void main(String[] args) {
-        int runs = args.length > 0 ? Integer.parseInt(args[0]) : 1500;
+        int runs = args.length > 0 ? Integer.parseInt(args[0]) : 1200;
         long first = args.length > 1 ? Long.parseLong(args[1]) : 1;
         int wrong = 0;
         for (int i = 0; i < runs && wrong < 3; i++) {
