@@ -621,7 +621,7 @@ public final class NextWay {
         }
 
         boolean hasWay(int corner, int way) {
-            return hasCorner(corner) && way >= 0 && way < wayCounts[corner];
+            return way >= 0 && way < waysOf(corner);
         }
 
         boolean hasWalker(int walker) {
@@ -741,7 +741,7 @@ public final class NextWay {
                 return stand;
             }
             int then = turnedBy(stand, at, stepOf(at));
-            return withPlace(then, walker, shownEnd(then, at));
+            return withPlace(then, walker, endOf(at, vaneOf(then, at)));
         }
 
         int behindOne(int stand) {
