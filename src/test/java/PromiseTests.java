@@ -1,88 +1,5 @@
 /** One test a promise of the document, with answers worked out by hand. */
-public final class PromiseTests {
-    private static final int NONE = -1, UNKNOWN = -2, OUTSIDE = -3, NOT = -4, FULL = -5;
-    private static final int LEAST = Integer.MIN_VALUE, MOST = Integer.MAX_VALUE;
-    private static int wrong = 0;
-
-    private static void due(String call, int got, int want) {
-        if (got != want) {
-            wrong++;
-            System.out.println(call + " answered " + got + ", due is " + want);
-        }
-    }
-
-    private static void same(String call, String got, String want) {
-        if (!got.equals(want)) {
-            wrong++;
-            System.out.println(call + " left " + got + ", due is " + want);
-        }
-    }
-
-    /** Writes a text, whatever it says; the bytes above the last are not 0, as they do not count. */
-    private static void write(NextWay x, String text) {
-        for (int i = 0; i < text.length(); i += 8) {
-            int n = Math.min(8, text.length() - i);
-            long bytes = n < 8 ? -1L << 8 * n : 0;
-            for (int k = 0; k < n; k++) {
-                bytes |= (long) text.charAt(i + k) << 8 * k;
-            }
-            x.write(bytes, n);
-        }
-    }
-
-    private static NextWay tell(NextWay x, String... texts) {
-        for (String text : texts) {
-            write(x, text);
-            if (x.town() < 1) {
-                wrong++;
-                System.out.println("not told: " + text);
-                x.erase();
-            }
-        }
-        return x;
-    }
-
-    private static NextWay town(String... texts) {
-        return tell(new NextWay(), texts);
-    }
-
-    /**
-     * CORNERS in a row, CORNER i with ways[i] WAYS: the first on to i + 1, the others back to 0. From VANES at 0 one goes
-     * on behind all others, and then all VANES are at 0 again; so it is T(i + 1) = ways[i] (T(i) + 1) BEATS to i + 1.
-     */
-    private static NextWay chain(int... ways) {
-        NextWay x = town("town " + (ways.length + 1));
-        for (int i = 0; i < ways.length; i++) {
-            tell(x, "way " + i + " " + (i + 1));
-            for (int k = 1; k < ways[i]; k++) {
-                tell(x, "way " + i + " 0");
-            }
-        }
-        return x;
-    }
-
-    private static int fault(NextWay x, String text) {
-        x.erase();
-        write(x, text);
-        return x.fault();
-    }
-
-    private static int fault(String text) {
-        return fault(new NextWay(), text);
-    }
-
-    /** All that can be seen of an object's state. */
-    private static String state(NextWay x) {
-        StringBuilder s = new StringBuilder();
-        for (int what = 0; what < 6; what++) {
-            s.append(x.count(what)).append(' ');
-        }
-        for (int c = 0; c < x.count(0); c++) {
-            s.append('|').append(x.corner(c, 0)).append(x.corner(c, 1)).append(x.corner(c, 2)).append(x.corner(c, 3));
-        }
-        return s.toString();
-    }
-
+public final class PromiseTests extends TownTest {
     private static void aNewObject() {
         NextWay x = new NextWay();
         same("1 new", state(x), "2 0 0 0 3 0 |00-10|00-10");
@@ -864,9 +781,6 @@ public final class PromiseTests {
         past();
         pastByKinds();
         count();
-        System.out.println(wrong == 0 ? "all promises are kept" : wrong + " answers are not as promised");
-        if (wrong != 0) {
-            System.exit(1);
-        }
+        finish("all promises are kept");
     }
 }
