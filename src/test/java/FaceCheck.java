@@ -25,15 +25,16 @@ public final class FaceCheck {
         }
     }
 
+    /** A method with its types; a static one is told from the face's, none of which is. */
     private static String signature(Method m) {
-        StringBuilder s = new StringBuilder(m.getName()).append('(');
+        StringBuilder s = new StringBuilder(Modifier.isStatic(m.getModifiers()) ? "static " : "").append(m.getName()).append('(');
         for (Class<?> p : m.getParameterTypes()) {
             s.append(s.charAt(s.length() - 1) == '(' ? "" : ",").append(p.getName());
         }
         return s.append(')').toString();
     }
 
-    private static void checkFace() {
+    private static void checkFace() throws Exception {
         Set<String> shown = new TreeSet<>();
         Set<String> names = new TreeSet<>();
         for (Method m : NextWay.class.getDeclaredMethods()) {
@@ -53,12 +54,16 @@ public final class FaceCheck {
         Set<String> constants = new TreeSet<>();
         for (Field f : NextWay.class.getDeclaredFields()) {
             if (Modifier.isPublic(f.getModifiers())) {
-                constants.add(f.getName());
+                boolean isConstant = Modifier.isStatic(f.getModifiers()) && Modifier.isFinal(f.getModifiers());
+                hold(isConstant && f.getType() == int.class, "a constant of int is " + f);
+                constants.add(f.getName() + "=" + (isConstant ? f.get(null) : "?"));
             } else {
                 hold(Modifier.isPrivate(f.getModifiers()), "private is " + f);
             }
         }
-        hold(constants.toString().equals("[FULL, NONE, NOT, OUTSIDE, UNKNOWN]"), "the constants, not " + constants);
+        hold(constants.toString().equals("[FULL=-5, NONE=-1, NOT=-4, OUTSIDE=-3, UNKNOWN=-2]"), "the constants, not " + constants);
+        hold(NextWay.class.getDeclaredConstructors().length == 1, "one constructor");
+        hold(NextWay.class.getDeclaredClasses().length <= 11, "twelve classes at most");
         checkClass(NextWay.class, names);
         for (Class<?> inside : NextWay.class.getDeclaredClasses()) {
             hold(Modifier.isStatic(inside.getModifiers()) && !Modifier.isPublic(inside.getModifiers()), "static: " + inside);
